@@ -799,6 +799,7 @@ public final class PromisesTest {
         orderedDithering();
         diffusionInFour();
         diffusionInSix();
+        partsOfDiffusion();
     }
 
     private static void orderedDithering() {
@@ -815,14 +816,18 @@ public final class PromisesTest {
         withEntries(x, 0x0D0D0D, 0x0E0E0E, 0x0F0F0F, 0x101010, 0x111111, 0x121212, 0x131313);
         due("map(1,4)", x.map(1, 4), 7);
         indices("map(1,4)", x, 0, 3, 1, 4, 5, 2, 6, 3);
-        // The rows 3 11 1 9 and 15 7 13 5 follow: -9, 7, -13, 3, 15, -1, 11, -5.
-        x = sized(4, 4);
-        x.gradient(0x202020, 0x202020, false);
-        withEntries(x, 0x171717, 0x272727, 0x131313, 0x232323, 0x2F2F2F, 0x1F1F1F, 0x2B2B2B, 0x1B1B1B);
-        x.map(1, 16);
-        for (int i = 0; i < 8; i++) {
-            due("index(" + i % 4 + "," + (2 + i / 4) + ")", x.index(i % 4, 2 + i / 4), i);
+        // Entry e is the gray 128 + 2 * e - 15, so that each index is B itself.
+        x = sized(6, 5);
+        x.gradient(0x808080, 0x808080, false);
+        for (int e = 0; e < 16; e++) {
+            x.add(0x010101 * (128 + 2 * e - 15), false);
         }
+        due("map(1,16)", x.map(1, 16), 16);
+        indices("map(1,16)", x, 0, 8, 2, 10, 0, 8, 12, 4, 14, 6, 12, 4, 3, 11, 1, 9, 3, 11, 15, 7, 13, 5, 15, 7, 0, 8, 2, 10, 0, 8);
+        // Each channel is shifted for itself.
+        x = withEntries(row(0, 0x500AF0), 0x510BF1, 0x500AF0, 0x510AF0, 0x500BF0, 0x500AF1);
+        x.map(1, 16);
+        due("index(1,0), shifted by 1", x.index(1, 0), 0);
         // Values are limited: 0 - 60 is 0, and 255 + 4 is 255.
         x = withEntries(row(0x0000FF, 0xFF0000), 0x0000C3, 0xFF0404);
         due("map(1,64)", x.map(1, 64), 2);
@@ -849,6 +854,41 @@ public final class PromisesTest {
         withEntries(x, 0, 255);
         due("map(2,0)", x.map(2, 0), 2);
         indices("map(2,0)", x, 0, 1, 1, 0);
+    }
+
+    /** The blue that a pixel of 200 is mapped to, after one of 99, mapped to 0, with all others transparent. */
+    private static int received(int method, int fromX, int fromY, int toX, int toY, int channel) {
+        PaletteBuilder x = sized(5, 6);
+        x.paint(0, 0, 5, 6, NONE);
+        int unit = channel == 0 ? 65536 : channel == 1 ? 256 : 1;
+        x.paint(fromX, fromY, 1, 1, 99 * unit);
+        x.paint(toX, toY, 1, 1, 200 * unit);
+        withEntries(x, 0, 200 * unit, 206 * unit, 212 * unit, 219 * unit, 231 * unit, 243 * unit);
+        x.map(method, 0);
+        return x.entry(x.index(toX, toY), 0) / unit;
+    }
+
+    private static void partsOfDiffusion() {
+        // e = 1584; with method 2 the parts are 693, 297, 495 and 99, with method 3 they are 198.
+        // (3200 + part + 8) / 16 is 243, 219, 231, 206 and 212, and without a part 200.
+        for (int fromY = 1; fromY <= 3; fromY++) {
+            int ahead = fromY % 2 == 0 ? 1 : -1;
+            for (int dy = 0; dy <= 2; dy++) {
+                for (int dx = -2; dx <= 2; dx++) {
+                    if (dy == 0 && dx * ahead <= 0) {
+                        continue;
+                    }
+                    int four = dy == 0 && dx == ahead ? 243 : dy != 1 ? 200
+                            : dx == -ahead ? 219 : dx == 0 ? 231 : dx == ahead ? 206 : 200;
+                    int six = dy == 0 || (dy == 1 && dx * dx <= 1) || (dy == 2 && dx == 0) ? 212 : 200;
+                    for (int channel = 0; channel < 3; channel++) {
+                        String when = " from row " + fromY + " by " + dx + "," + dy + ", channel " + channel;
+                        due("map(2,0)" + when, received(2, 2, fromY, 2 + dx, fromY + dy, channel), four);
+                        due("map(3,0)" + when, received(3, 2, fromY, 2 + dx, fromY + dy, channel), six);
+                    }
+                }
+            }
+        }
     }
 
     private static void diffusionInSix() {
