@@ -938,6 +938,34 @@ public final class ReferenceTest {
         }
         strangeness = seed % 4 == 0 ? 5 : 60;
         broad = seed % 2 == 0;
+        if (seed % 10 == 3) {
+            fillUp(seed);
+        }
+    }
+
+    /** Goes to the limits: an image of 256 pixels with as many colors, and 16 entries. */
+    private void fillUp(int seed) {
+        compare("image(16,16)", built.image(16, 16), due.image(16, 16));
+        compare("gradient", built.gradient(0x404040, 0xC0C0C0, false), due.gradient(0x404040, 0xC0C0C0, false));
+        compare("noise", built.noise(seed, 64), due.noise(seed, 64));
+        compare("colors()", built.colors(), due.colors());
+        for (int k = 0; k <= 256; k++) {
+            compare("color(" + k + ",0)", built.color(k, 0), due.color(k, 0));
+        }
+        for (int rule = 0; rule < 3; rule++) {
+            compare("build(16," + rule + ")", built.build(16, rule), due.build(16, rule));
+            compare("refine(3)", built.refine(3), due.refine(3));
+            compare("map(" + rule + ",20)", built.map(rule, 20), due.map(rule, 20));
+            compare("sort(" + rule + ")", built.sort(rule), due.sort(rule));
+            compare("digest()", built.digest(), due.digest());
+            compare("bestAddition()", built.bestAddition(), due.bestAddition());
+            compare("cheapest()", built.cheapest(), due.cheapest());
+        }
+        compare("map(3,0)", built.map(3, 0), due.map(3, 0));
+        compare("packed(255)", built.packed(255), due.packed(255));
+        compare("digest()", built.digest(), due.digest());
+        compare("merge(9)", built.merge(9), due.merge(9));
+        compare("digest()", built.digest(), due.digest());
     }
 
     private int in(int least, int greatest) {
