@@ -104,11 +104,58 @@ public final class BuildingBoundariesTest extends Boundaries {
         }
         PaletteBuilder x = row(0, 0, 0, 0, 0, 100, 110);
         palette("the box with the most pixels has one color", built(x, 3, 0), 0, 100, 110);
+        // Nothing is left of the boxes of an earlier call.
+        for (int rule = 0; rule <= 2; rule++) {
+            x = built(allBlues(), 2, rule);
+            x.image(2, 1);
+            x.paint(0, 0, 1, 1, 9);
+            due("two colors, after 256", x.build(16, rule), 2);
+            palette("two colors, after 256", x, 0, 9);
+        }
         sentence(20, "The lower part takes its place, and the upper part comes to the end of the boxes.");
         x = row(0, 1, 100, 101, 200, 201, 202, 203);
         palette("first split", built(x, 2, 0), 51, 202);
         palette("second split", built(x, 3, 0), 1, 202, 101);
         palette("third split", built(x, 4, 0), 1, 201, 101, 203);
+    }
+
+    private static void meansOfBoxes() {
+        sentence(20, "At last, for each box in this order, an entry with the mean color of its pixels is added.");
+        PaletteBuilder x = row(0, 0, 1, 100, 101, 101, 102);
+        due("build(2,0)", x.build(2, 0), 2);
+        palette("means of pixels, not of colors: 101 / 4 and 304 / 3", x, 25, 101);
+        x = locked(with(row(0, 0, 0, 9), 200, 0), 0);
+        due("build(2,0), after the locked one", x.build(2, 0), 2);
+        palette("a mean of 9 / 4", x, 200, 2);
+        locks("build(2,0)", x, 1, 0);
+        x = plain(16, 16, WHITE);
+        due("build(16,0), one box of 256 pixels", x.build(16, 0), 1);
+        palette("one box of 256 pixels", x, WHITE);
+        x = row(0, 1);
+        due("build(1,0), a half", x.build(1, 0), 1);
+        palette("a half", x, 1);
+    }
+
+    private static void stepsOfMerge() {
+        sentence(22, "In each step let p(k) be the number of opaque pixels whose nearest entry is k.");
+        // p is 3, 1, 1: 20 and 26 are merged, and 23 has 2 pixels then. p is 3, 2 in the next step, so (0 + 46) / 5 = 9.
+        PaletteBuilder x = with(row(0, 0, 0, 20, 26), 0, 20, 26);
+        due("merge(2)", x.merge(2), 2);
+        palette("merge(2)", x, 0, 23);
+        due("merge(1)", x.merge(1), 1);
+        palette("merge(1)", x, 9);
+        x = with(row(0, 0, 0, 20, 26), 0, 20, 26);
+        due("merge(1) at once", x.merge(1), 1);
+        palette("merge(1) at once", x, 9);
+        // The pixel 14 belongs to 8 at first, so that 0 and 8, twice, become 5; it is 9 away from it, and 10 from 24.
+        x = with(row(0, 8, 14, 24, NONE), 0, 8, 24);
+        due("merge(2)", x.merge(2), 2);
+        palette("merge(2)", x, 5, 24);
+        due("entry(0,2)", x.entry(0, 2), 3);
+        // Of equal entries only the first one has pixels.
+        x = with(row(7, 7), 7, 7, 90);
+        due("merge(2), the cost of 7 and 7 and of 7 and 90 is 0", x.merge(2), 2);
+        palette("merge(2)", x, 7, 90);
     }
 
     private static void measures() {
@@ -134,6 +181,19 @@ public final class BuildingBoundariesTest extends Boundaries {
         due("color(1,1)", x.color(1, 1), 125);
         palette("two boxes", built(x, 2, 2), 0x7F8080, 0xFF0008);
         palette("a great sum", built(x, 3, 2), 0, 0xFF0008, 0xFEFFFF);
+        // In each channel: 20 * 20 in the upper box against 19 * 19 of another channel in the lower one.
+        x = row(0x000000, 0x130000, 0xC80000, 0xDC0000);
+        palette("red counts", built(x, 3, 2), 0x0A0000, 0xC80000, 0xDC0000);
+        x = row(0x000000, 0x001300, 0xC80000, 0xC80014);
+        palette("blue counts", built(x, 3, 2), 0x000A00, 0xC80000, 0xC80014);
+        x = row(0x000000, 0x000013, 0xC80000, 0xC81400);
+        palette("green counts", built(x, 3, 2), 0x00000A, 0xC80000, 0xC81400);
+        x = row(0x000000, 0x001300, 0x000000, 0xC80000, 0xDC0000, 0xC80000);
+        palette("red counts, twice", built(x, 3, 2), 0x000600, 0xC80000, 0xDC0000);
+        // Both boxes have 4, with 4 and with 2 pixels: the first one is split.
+        palette("equal sums", built(row(0, 0, 1, 1, 100, 102), 3, 2), 0, 101, 1);
+        // The boxes are 0 and 2, then 100 and 101, twice each, then 50: the first two have 4.
+        palette("equal sums", built(row(0, 2, 50, 50, 100, 100, 101, 101), 4, 2), 0, 101, 50, 2);
         // One color has the sum 0; a box of two colors has more.
         x = row(9, 9, 9, 9, 9, 9, 20, 21);
         palette("a box of one color is not split", built(x, 3, 2), 9, 20, 21);
@@ -144,8 +204,13 @@ public final class BuildingBoundariesTest extends Boundaries {
         palette("green and blue", built(row(0x000A00, 0x00000A), 2, 0), 0x00000A, 0x000A00);
         palette("red and green", built(row(0x0A0000, 0x000A00), 2, 0), 0x000A00, 0x0A0000);
         palette("red and blue", built(row(0x0A0000, 0x00000A), 2, 0), 0x00000A, 0x0A0000);
+        palette("black and white", built(row(WHITE, 0, WHITE), 2, 0), 0, WHITE);
+        palette("white and almost white", built(row(WHITE, 0xFFFFFE, 0xFEFFFF), 3, 0), 0xFEFFFF, WHITE, 0xFFFFFE);
         palette("blue is greater by 1", built(row(0x0A0A00, 0x00000B), 2, 0), 0x0A0A00, 0x00000B);
         palette("green is greater by 1", built(row(0x0A000A, 0x000B00), 2, 0), 0x0A000A, 0x000B00);
+        // At first by red; then by blue, whatever the red is: 0x0A0000, twice, comes before 1 and 20.
+        PaletteBuilder twice = row(0x000001, 0x000014, 0x0A0000, 0x0A0000, 0xC80000, 0xC80000, 0xC80000, 0xC80000);
+        palette("red, then blue", built(twice, 3, 0), 0x0A0000, 0xC80000, 0x00000B);
         sentence(20, "Its colors are ordered by this channel, and those with equal values by the colors as numbers.");
         // By green; of those with green 0, the lower part gets 0x010000 and 0x020000.
         PaletteBuilder x = row(0x030000, 0x010000, 0x00FF00, 0x020000);
@@ -226,6 +291,18 @@ public final class BuildingBoundariesTest extends Boundaries {
         x = locked(with(row(10, 20, 100), 12, 90), 0);
         due("refine(20), one is locked", x.refine(20), 1);
         palette("one is locked", x, 12, 100);
+        x = sized(16, 1);
+        for (int i = 0; i < 16; i++) {
+            x.paint(i, 0, 1, 1, 0x010307 + 16 * i);
+            x.add(16 * i, false);
+        }
+        due("refine(20), each of 16 has a pixel", x.refine(20), 1);
+        for (int e = 0; e < 16; e++) {
+            due("entry(" + e + ",0)", x.entry(e, 0), 0x010307 + 16 * e);
+        }
+        x = with(row(0x102030, 0x122438, 0xE0D0C0, 0xE2D4C8), 0, WHITE);
+        due("refine(20), each channel has its own mean", x.refine(20), 1);
+        palette("each channel has its own mean", x, 0x112234, 0xE1D2C4);
         // The nearest entries are found before any entry moves: 14 belongs to 10, though 10 moves to 6 and 20 to 24.
         x = with(row(0, 4, 14, 24), 10, 20);
         due("refine(1)", x.refine(1), 1);
@@ -361,12 +438,17 @@ public final class BuildingBoundariesTest extends Boundaries {
         palette("sort(0)", x, 9, 10, 20, 30, 0);
         x = new PaletteBuilder();
         for (int e = 0; e < 16; e++) {
-            x.add(150 - 10 * e, false);
+            x.add(160 - 10 * e, false);
         }
         due("sort(0) of 16, all other way round", x.sort(0), 16);
         for (int e = 0; e < 16; e++) {
-            due("entry(" + e + ",0)", x.entry(e, 0), 10 * e);
+            due("entry(" + e + ",0)", x.entry(e, 0), 10 * e + 10);
         }
+        x = with(allBlues(), 255, 0);
+        x.map(0, 0);
+        due("sort(0), 256 pixels", x.sort(0), 2);
+        due("index(0,0)", x.index(0, 0), 0);
+        due("index(15,15)", x.index(15, 15), 1);
     }
 
     private static void ordersOfSort() {
@@ -435,12 +517,14 @@ public final class BuildingBoundariesTest extends Boundaries {
         lockedEntriesInBuild();
         noBox();
         endOfSplitting();
+        meansOfBoxes();
         measures();
         channelsOfSplits();
         halves();
         roundsOfRefine();
         entriesThatStay();
         numberOfMerge();
+        stepsOfMerge();
         pairsOfMerge();
         costsOfMerge();
         colorsOfMerge();

@@ -111,6 +111,21 @@ public final class DescriptionBoundariesTest extends Boundaries {
         palette("each channel has its own mean", x, 0x555555);
     }
 
+    private static void orderOfChannels() {
+        sentence(0, "The channels are always treated in the order red, green, blue.");
+        // From 0 the steps of noise are -64, -10, -9.
+        PaletteBuilder x = row(0x646464);
+        x.noise(0, 64);
+        pixels("noise(0,64)", x, 0x245A5B);
+        // All ranges are 10: red is the first one.
+        x = row(0x0A0000, 0x000A0A);
+        x.build(2, 0);
+        palette("build(2,0)", x, 0x000A0A, 0x0A0000);
+        typed(x, "#123#456789");
+        x.load();
+        palette("load()", x, 0x112233, 0x456789);
+    }
+
     private static void sizeOfThePalette() {
         sentence(0, "The palette has 0 to 16 entries, at first none, numbered from 0.");
         PaletteBuilder x = new PaletteBuilder();
@@ -134,6 +149,14 @@ public final class DescriptionBoundariesTest extends Boundaries {
             due("count(5)", x.count(5), e + 1);
         }
         due("count(4)", x.count(4), 16);
+        sentence(0, "An entry has a color, and is locked or not.");
+        x = new PaletteBuilder();
+        x.add(0, false);
+        x.add(0, true);
+        x.add(MAX_COLOR, false);
+        x.add(MAX_COLOR, true);
+        palette("add", x, 0, 0, MAX_COLOR, MAX_COLOR);
+        locks("add", x, 0, 1, 0, 1);
     }
 
     private static void metrics() {
@@ -403,6 +426,18 @@ public final class DescriptionBoundariesTest extends Boundaries {
         due("undo(), none is left", x.undo(), STATE);
     }
 
+    /** 256 pixels, of which the last one alone is not black, and 16 entries, of which the last one is locked. */
+    private static PaletteBuilder full() {
+        PaletteBuilder x = sized(16, 16);
+        x.paint(15, 15, 1, 1, 150);
+        for (int e = 0; e < 16; e++) {
+            typed(x, String.format("#%06x", 10 * e));
+        }
+        x.type('!');
+        x.load();
+        return x;
+    }
+
     private static void partsOfAState() {
         sentence(0, "A state consists of the image, the palette, the metric and the indices.");
         PaletteBuilder x = sample();
@@ -422,6 +457,21 @@ public final class DescriptionBoundariesTest extends Boundaries {
         x.undo();
         x.undo();
         due("digest(), all is back", x.digest(), before);
+        // The last pixel, its index and the last entry of a full state come back, too.
+        x = mapped(full(), 0, 0);
+        before = x.digest();
+        x.swap(0, 15);
+        x.load();
+        x.paint(15, 15, 1, 1, 3);
+        x.undo();
+        x.undo();
+        x.undo();
+        due("digest(), all of a full state is back", x.digest(), before);
+        due("pixel(15,15)", x.pixel(15, 15), 150);
+        due("index(15,15)", x.index(15, 15), 15);
+        due("entry(15,0)", x.entry(15, 0), 150);
+        due("entry(15,1)", x.entry(15, 1), 1);
+        x = sample();
         typed(x, "ab");
         x.lock(0, true);
         typed(x, "c");
@@ -431,6 +481,45 @@ public final class DescriptionBoundariesTest extends Boundaries {
         x.clearText();
         x.undo();
         due("count(9), the text is no part of it", x.count(9), 0);
+    }
+
+    private static void kindsOfErrors() {
+        sentence(0, "BAD: an argument is out of range, or names something that does not exist.");
+        PaletteBuilder x = sample();
+        refused("sort(3), out of range", x, BAD, b -> b.sort(3));
+        refused("count(10), out of range", x, BAD, b -> b.count(10));
+        refused("pixel(3,0), there is none", x, BAD, b -> b.pixel(3, 0));
+        refused("entry(2,0), there is none", x, BAD, b -> b.entry(2, 0));
+        refused("remove(2), there is none", x, BAD, b -> b.remove(2));
+        x.image(4, 1);
+        x.add(1, false);
+        due("pixel(3,0), there is one by now", x.pixel(3, 0), 0);
+        due("entry(2,0), there is one by now", x.entry(2, 0), 1);
+        sentence(0, "STATE: the call is not possible now, as the method says.");
+        x = new PaletteBuilder();
+        refused("map(0,0), no entries", x, STATE, b -> b.map(0, 0));
+        x.add(1, true);
+        refused("remove(0), locked", x, STATE, b -> b.remove(0));
+        refused("loss(0), the only one", x, STATE, b -> b.loss(0));
+        refused("error(), no indices", x, STATE, PaletteBuilder::error);
+        due("map(0,0), it is possible by now", x.map(0, 0), 1);
+        due("error(), it is possible by now", x.error(), 1);
+        x.lock(0, false);
+        due("remove(0), it is possible by now", x.remove(0), 1);
+        sentence(0, "FULL: a limit would be exceeded.");
+        x = filled(row(155, 5), 16, 10);
+        refused("add(1,false), 16 entries", x, FULL, b -> b.add(1, false));
+        due("gain(155), nothing is added", x.gain(155), 25);
+        due("build(16,0), the others are removed before", x.build(16, 0), 2);
+        typed(x, "#123".repeat(35));
+        refused("type(32), 140 bytes", x, FULL, b -> b.type(32));
+        refused("load(), the text has a fault", x, STATE, PaletteBuilder::load);
+        due("fault(), the 17th entry", x.fault(), 64);
+        // An 11th state is no error: the oldest one goes.
+        for (int i = 0; i < 11; i++) {
+            due("setMetric(0)", x.setMetric(0), 0);
+        }
+        due("count(8)", x.count(8), 10);
     }
 
     private static void severalErrors() {
@@ -599,6 +688,7 @@ public final class DescriptionBoundariesTest extends Boundaries {
         coordinates();
         newImages();
         colorsFromTo();
+        orderOfChannels();
         sizeOfThePalette();
         metrics();
         distancesOfColors();
@@ -612,6 +702,7 @@ public final class DescriptionBoundariesTest extends Boundaries {
         callsThatAreNoChanges();
         historyOfTen();
         partsOfAState();
+        kindsOfErrors();
         severalErrors();
         noneIsNoError();
         errorsChangeNothing();

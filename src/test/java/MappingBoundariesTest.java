@@ -105,6 +105,9 @@ public final class MappingBoundariesTest extends Boundaries {
         due("195 + 60: index(0,3)", x.index(0, 3), 1);
         x = mapped(with(plain(1, 4, 0xC2C2C2), 0xFEFEFE, 0xFFFFFF), 1, 64);
         due("194 + 60: index(0,3)", x.index(0, 3), 0);
+        // Each channel for itself: at 0,1 the step is 9; the other entries have a channel in the place of another one.
+        x = mapped(with(plain(1, 2, 0x102040), 0x292949, 0x492949, 0x191949, 0x194949, 0x192919, 0x192929, 0x192949), 1, 16);
+        due("9 in each channel: index(0,1)", x.index(0, 1), 6);
         x = mapped(with(plain(4, 4, NONE), 1), 1, 64);
         due("transparent pixels stay transparent: index(0,3)", x.index(0, 3), 1);
     }
@@ -198,6 +201,18 @@ public final class MappingBoundariesTest extends Boundaries {
         // 99 -> 0 and e = 1584 give 198 to the next two; 3200 + 198 + 8 = 3406 = 16 * 212 + 14.
         x = mapped(with(row(99, NONE, 200), 0, 212, 213), 3, 0);
         indices("rounded down", x, 0, 3, 1);
+        // 100 -> 0 and 1600 / 8 = 200: 3200 + 200 + 8 = 16 * 213 exactly.
+        x = mapped(with(row(100, NONE, 200), 0, 212, 213), 3, 0);
+        indices("exactly a half", x, 0, 3, 2);
+        // 97 -> 0 and a = 679: 3200 + 679 + 8 = 16 * 243 - 1; 104 -> 0 and a = 728: 3200 + 728 + 8 = 16 * 246.
+        x = mapped(with(row(97, 200), 0, 242, 243), 2, 0);
+        indices("just below a half", x, 0, 1);
+        x = mapped(with(row(104, 200), 0, 245, 246), 2, 0);
+        indices("exactly a half", x, 0, 2);
+        for (int method = 2; method <= 3; method++) {
+            x = with(row(0x102040), 0x202040, 0x402040, 0x101040, 0x104040, 0x102010, 0x102020, 0x102040);
+            indices("each channel for itself", mapped(x, method, 0), 6);
+        }
         sentence(24, "The error e of a channel is its sum minus 16 times the value of the entry.");
         // As above, then e = 4465 - 3920 = 545, not 4080 - 3920: 1600 + 238 = 1838 gives 115, not 104.
         x = with(row(0xFF0000, 0xFF00C8, 0x640064), 0xC80000, 0xF500C8, 0xFF00D3, 0x730064, 0x680064);

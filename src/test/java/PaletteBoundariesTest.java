@@ -119,6 +119,11 @@ public final class PaletteBoundariesTest extends Boundaries {
         due("swap(0,15) of 16", x.swap(0, 15), 0);
         due("entry(0,0)", x.entry(0, 0), 150);
         due("entry(15,0)", x.entry(15, 0), 0);
+        x = mapped(filled(allBlues(), 16, 17), 0, 0);
+        due("swap(0,15), 256 pixels", x.swap(0, 15), 0);
+        due("index(0,0)", x.index(0, 0), 15);
+        due("index(15,15)", x.index(15, 15), 0);
+        due("index(15,7)", x.index(15, 7), 7);
         change("swap(0,1)", sample(), 0, 1, b -> b.swap(0, 1));
         x = sample();
         x.swap(0, 1);

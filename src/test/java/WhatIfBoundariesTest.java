@@ -174,6 +174,23 @@ public final class WhatIfBoundariesTest extends Boundaries {
         return best;
     }
 
+    private static void nothingChanges() {
+        sentence(31, "---- what if; nothing changes");
+        for (int entries : new int[] {0, 1, 2, 16}) {
+            PaletteBuilder x = filled(row(10, 200, NONE), entries, 16);
+            x.map(1, 9);
+            long before = x.digest();
+            int error = x.bestError();
+            x.loss(0);
+            x.cheapest();
+            x.gain(200);
+            x.gain(-1);
+            x.bestAddition();
+            due("digest(), " + entries + " entries", x.digest(), before);
+            due("bestError(), " + entries + " entries", x.bestError(), error);
+        }
+    }
+
     private static void undone() {
         sentence(36, "Returns how many more can be undone; STATE if there is none.");
         refused("undo() of a new object", new PaletteBuilder(), STATE, PaletteBuilder::undo);
@@ -267,6 +284,13 @@ public final class WhatIfBoundariesTest extends Boundaries {
         x.paint(0, 1, 1, 1, NONE);
         x.paint(1, 1, 1, 1, 5);
         due("digest(), a transparent pixel", x.digest(), mixed(77, 2, 2, 3, 1, 0, 0, 0, 0, 4, 0, 0, 3, NONE, 5));
+        sentence(38, "for each entry, entry(e, 0) to entry(e, 3)");
+        x = mapped(filled(new PaletteBuilder(), 16, 1), 0, 0);
+        h = mixed(77, 1, 1, 1, 0, 16, 0, 0, 1, 10, 0, 0, 0, 0, 1, 1);
+        for (int e = 1; e < 16; e++) {
+            h = mixed(h, e, 0, 0, 0);
+        }
+        due("digest(), 16 entries", x.digest(), mixed(h, 0, 0, 0, 0, 1));
         sentence(38, "if there are indices, the index of each pixel in row-major order, error(), worst(), meanError() and runs()");
         x = locked(with(plain(2, 1, NONE), 6, 9), 1);
         due("digest(), no indices", x.digest(), mixed(77, 2, 1, 0, 2, 2, 1, 0, 0, 5, 0, NONE, NONE, 6, 0, 0, 0, 9, 1, 0, 0));
@@ -293,6 +317,7 @@ public final class WhatIfBoundariesTest extends Boundaries {
         cheapestEntries();
         gains();
         bestAdditions();
+        nothingChanges();
         undone();
         counts();
         digests();
